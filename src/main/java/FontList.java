@@ -139,7 +139,7 @@ public final class FontList {
         }
         told[k] = reader.exchange(told[k]);
         search.forget();
-        return told[k].clauses;
+        return usage.clausesOf(k);
     }
 
     public boolean customs(int a, int b, int year) {
@@ -341,7 +341,7 @@ public final class FontList {
 
     public int count(int what) {
         if (what >= 10 && what < 10 + told.length) {
-            return told[what - 10].clauses;
+            return usage.clausesOf(what - 10);
         }
         switch (what) {
             case 0:
@@ -873,8 +873,12 @@ public final class FontList {
             change = year;
         }
 
+        int clausesOf(int k) {
+            return k >= 0 && k < told.length && told[k] != null ? told[k].clauses : 0;
+        }
+
         boolean isTold(int k) {
-            return k >= 0 && k < told.length && told[k] != null && told[k].clauses > 0;
+            return clausesOf(k) > 0;
         }
 
         boolean anyTold() {

@@ -242,6 +242,15 @@ public final class FamilyTest {
         use(twins, "D(1=1)");
         due.is("a twin that died", twins.should(0, 3, 1), PAUL);
         due.is("the elder twin", twins.by(0, 3, 0), 0);
+        use(twins, "P(t=1)");
+        due.is("the elder one is a twin", twins.by(0, 3, 0), 'P');
+        due.is("the younger one is a twin", twins.by(0, 3, 1), 'P');
+        due.is("alone it is none", twins.by(0, 2, 1), 0);
+        child(twins, JOHN, 30);
+        child(twins, LUKE, 40);
+        twins.died(2, 35);
+        use(twins, "D(1=1)");
+        due.is("NAME 0 of the dead one", twins.should(0, 12, 3), JOHN);
         twins.died(0, -1);
         twins.died(1, 20);
         due.is("the younger twin died", twins.by(0, 3, 0), 0);
@@ -312,6 +321,8 @@ public final class FamilyTest {
         holds("[65536*32768]%[0-1]=0", true);
         holds("65536*32768-1>0", true);
         holds("65536*65536=0", true);
+        holds("7=1+1*[1+1*[1+1*[1+1*[1+1*[1+1*1]]]]]", true);
+        holds("8=1+1*[1+1*[1+1*[1+1*[1+1*[1+1*2]]]]]", true);
         holds("1<1", false);
         holds("1>1", false);
         holds("1<2", true);
@@ -325,6 +336,10 @@ public final class FamilyTest {
         holds("!1=2&1=2", false);
         holds("!(1=2&1=2)", true);
         holds("!!1=1", true);
+        holds("!1<2", false);
+        holds("!2>1", false);
+        holds("!2<1", true);
+        holds("!1>2", true);
         holds("!(1=2|1=1)", false);
         holds("1=2|1=2|1=1", true);
         holds("1=2|1=1|1=2", true);

@@ -129,6 +129,25 @@ public final class RowTest {
         learns("B alone, from the first YEAR on", list, 0, 300, new int[] {0, 0, 0}, 0, 1, 0, 5);
         learns("A alone", list, 300, 300, new int[] {0, 0, 0}, 1, 0, 300, 5);
         learns("A for the first, B behind it", list, 21, 300, new int[] {0, 0, 0}, 1, 0, 23, 5);
+        FontList one = new FontList();
+        one.name(0, 5);
+        one.name(1, 6);
+        one.couple(0, 1, 0, 299);
+        one.christening(0, 50, 0, -1, -1);
+        one.parent(0, 0, 0);
+        one.parent(0, 2, 0);
+        text(one, 1, "P(n=1)");
+        text(one, 0, "P(n=2)");
+        learns("B in its YEAR", one, 0, 300, new int[] {0}, 0, 1, 0, 5);
+        learns("A ahead of the YEAR behind it", one, 51, 300, new int[] {0}, 1, 0, 51, 5);
+        learns("and not ahead of its own", one, 50, 51, new int[] {0}, 0, 1, 50, 5);
+        text(one, 0, "S(n=1)");
+        text(one, 1, "F(y=50);P(y=50)");
+        learns("B alone", one, 49, 52, new int[] {0}, 0, 1, 49, 5);
+        Due.custom(one, 0, "P(n=1)");
+        Due.custom(one, 1, "Q(n=1)");
+        one.christening(1, 60, 0, -1, -1);
+        learns("at 51, where the first goes over", one, 40, 70, new int[] {0, 0}, 0, 1, 51, 11);
     }
 
     private static void promise22LikeOnes() {
@@ -165,5 +184,6 @@ public final class RowTest {
         FontList none = new FontList();
         text(none, 2, "P(n=1)");
         learns("no CHRISTENING", none, 7, 9, new int[0], 2, 2, 7, 0);
+        due.is("no CHRISTENING, no tape", none.learnt(7, 9, 2), 7);
     }
 }

@@ -108,6 +108,15 @@ public final class WaysTest {
         due.is("then 2 has nobody", list.ways(3), 3);
         list.weighs(1, 3);
         due.is("then 2 is a first one", list.ways(3), 1);
+        FontList told = twoCouples();
+        told.christening(2, 20, 0, -1, -1);
+        told.christening(3, 60, 0, -1, -1);
+        told.parent(0, 0, 2);
+        told.parent(1, 0, 3);
+        told.weighs(2, 4);
+        use(told, "F(n=1)");
+        due.is("9 with the first, nobody for the other", told.ways(0), 5);
+        due.is("then -2 with the second", told.ways(3), 11);
     }
 
     private static void promise17AllTen() {
@@ -194,6 +203,11 @@ public final class WaysTest {
         due.is("sure(0, 5)", list.sure(0, 5), -1);
         due.is("sure(0, 7)", list.sure(0, 7), -1);
         due.is("sure(0, -1)", list.sure(0, -1), -1);
+        sureOfThese(0, 2);
+        sureOfThese(0, 4);
+        sureOfThese(1, 5);
+        sureOfThese(3, 5);
+        sureOfThese(2, 3);
         // One COUPLE: both can't be in it, either may.
         FontList one = new FontList();
         one.name(0, 5);
@@ -206,6 +220,26 @@ public final class WaysTest {
         due.is("either", one.sure(0, 0), 1);
         due.is("the other", one.sure(1, 0), 1);
         due.is("SURE in both", one.sure(2, 0), 2);
+    }
+
+    /** Six COUPLES of which two alone have a grandfather of the child's NAME. */
+    private static void sureOfThese(int one, int other) {
+        FontList list = new FontList();
+        list.name(0, 5);
+        list.name(1, 5);
+        list.name(0, 5);
+        for (int c = 0; c < 6; c++) {
+            list.couple(0, 1, 0, 99);
+            list.parent(c, 0, c == one || c == other ? 2 : 0);
+        }
+        list.christening(2, 20, 0, -1, -1);
+        use(list, "F(n=1)");
+        for (int c = 0; c < 7; c++) {
+            due.is(one + " or " + other + ": sure(0, " + c + ")", list.sure(0, c), 1);
+        }
+        due.is("the least row", list.best(0), one);
+        list.parent(one, 0, 0);
+        due.is("the other alone", list.sure(0, other), 2);
     }
 
     private static void promise19Grand() {
