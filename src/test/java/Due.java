@@ -1,14 +1,41 @@
+import java.io.IOException;
+import java.nio.file.Files;
+import java.nio.file.Path;
+
 /** Counts the answers that are not as due, and feeds texts to a tape. */
 final class Due {
+    private static final Path DOCUMENT = Path.of("../shared/DOC.md");
+
     private int asked;
     private int wrong;
+    private int sentences;
+    private String sentence = "";
+    private String document = "";
 
     void is(String call, long got, long want) {
         asked++;
         if (got != want) {
             wrong++;
-            System.out.println(call + " answered " + got + ", due is " + want);
+            System.out.println(sentence + call + " answered " + got + ", due is " + want);
         }
+    }
+
+    /** What is asked from here on is due by these words, which must stand in the document. */
+    void sentence(String words) {
+        sentence = "[" + words + "] ";
+        sentences++;
+        yes("the words stand in the document", document().isEmpty() || document().contains(words));
+    }
+
+    private String document() {
+        if (document.isEmpty() && Files.isReadable(DOCUMENT)) {
+            try {
+                document = Files.readString(DOCUMENT).replaceAll("\\s+", " ");
+            } catch (IOException unread) {
+                System.out.println("the document can't be read: " + unread);
+            }
+        }
+        return document;
     }
 
     void yes(String call, boolean got) {
@@ -20,10 +47,17 @@ final class Due {
     }
 
     void end(String test) {
-        System.out.println(test + ": " + asked + " answers, " + wrong + " not as due");
+        String of = sentences == 0 ? "" : " to " + sentences + " sentences";
+        System.out.println(test + ": " + asked + " answers" + of + ", " + wrong + " not as due");
         if (wrong != 0 || asked == 0) {
             System.exit(1);
         }
+    }
+
+    /** Tells a TEXT without a FAULT as CUSTOM 0, which is THE CUSTOM in all YEARS. */
+    void use(FontList list, String text) {
+        yes("no FAULT in " + text, custom(list, 0, text) > 0);
+        list.customs(0, 0, 0);
     }
 
     /** Feeds a text, filled up with blanks to twenties; answers what the last feed answered. */

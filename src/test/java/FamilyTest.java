@@ -1,13 +1,6 @@
 /** Promises 11 to 15: TIES, FAMILIES, their POINTS, and whose NAMES children should have. */
-public final class FamilyTest {
+public final class FamilyTest extends Parish {
     private static final Due due = new Due();
-    private static final int JOHN = 0;
-    private static final int PAUL = 1;
-    private static final int MARK = 2;
-    private static final int LUKE = 3;
-    private static final int MARY = 4;
-    private static final int ANNE = 5;
-    private static final int RUTH = 6;
 
     public static void main(String[] args) {
         promise11Tie();
@@ -24,28 +17,6 @@ public final class FamilyTest {
         promise14and15NoSuchOnes();
         promise15Should();
         due.end("FamilyTest");
-    }
-
-    /** John and Mary, wed in 10, children to 90; NAMES say 11, 12, .. by their numbers. */
-    private static FontList people() {
-        FontList list = new FontList();
-        for (int k = 0; k < 4; k++) {
-            list.name(0, 11 + k);
-        }
-        for (int k = 4; k < 7; k++) {
-            list.name(1, 11 + k);
-        }
-        list.couple(JOHN, MARY, 10, 90);
-        return list;
-    }
-
-    private static int child(FontList list, int name, int year) {
-        return list.christening(name, year, JOHN, MARY, -1);
-    }
-
-    private static void use(FontList list, String text) {
-        due.is("FAULT of " + text, Due.custom(list, 0, text) > 0 ? 1 : 0, 1);
-        list.customs(0, 0, 0);
     }
 
     private static void promise11Tie() {
@@ -137,7 +108,7 @@ public final class FamilyTest {
         child(list, PAUL, 22);
         child(list, MARY, 24);
         due.is("no CUSTOM", list.points(0, 7), 0);
-        use(list, "P(n=1);S(n=2);Q(n=1)");
+        due.use(list, "P(n=1);S(n=2);Q(n=1)");
         due.is("John 11, Paul FREE, Mary 15", list.points(0, 7), 26);
         due.is("Paul has not John's", list.points(0, 6), 5);
         list.weighs(100, 0);
@@ -152,7 +123,7 @@ public final class FamilyTest {
 
     private static void promise13ParentsNotTold() {
         FontList list = people();
-        use(list, "F(n>0);f(n=1);m(n=2)");
+        due.use(list, "F(n>0);f(n=1);m(n=2)");
         child(list, PAUL, 20);
         child(list, MARK, 30);
         due.is("Paul 12 - 10 or Mark 13 - 10", list.points(0, 3), 3);
@@ -180,7 +151,7 @@ public final class FamilyTest {
         even.couple(0, 1, 0, 99);
         even.christening(3, 10, 0, -1, -1);
         even.christening(2, 20, 0, -1, -1);
-        use(even, "M(n>0)");
+        due.use(even, "M(n>0)");
         due.is("of like ones the lowest NAME", even.should(0, 3, 0), 2);
         due.is("7 - 10", even.points(0, 3), -3);
     }
@@ -192,19 +163,19 @@ public final class FamilyTest {
         child(list, MARK, 40);
         String all = "FfMmPQ";
         for (int k = 0; k < all.length(); k++) {
-            use(list, all.charAt(k) + "(1=1)");
+            due.use(list, all.charAt(k) + "(1=1)");
             boolean sons = k % 2 == 0;
             due.is(all.charAt(k) + " for a son", list.by(0, 7, 0), sons ? all.charAt(k) : 0);
             due.is(all.charAt(k) + " for a daughter", list.by(0, 7, 1), sons ? 0 : all.charAt(k));
         }
-        use(list, "S(1=1)");
+        due.use(list, "S(1=1)");
         due.is("a son's SPONSOR", list.should(0, 7, 0), LUKE);
         due.is("a daughter's SPONSOR", list.should(0, 7, 1), RUTH);
         due.is("no SPONSOR", list.by(0, 7, 2), 0);
-        use(list, "D(1=1);S(1=1);f(1=1);F(1=1)");
+        due.use(list, "D(1=1);S(1=1);f(1=1);F(1=1)");
         due.is("the first there is: S", list.by(0, 7, 0), 'S');
         due.is("the first there is: F", list.by(0, 7, 2), 'F');
-        use(list, "F(1=2);P(1=1);M(1=1)");
+        due.use(list, "F(1=2);P(1=1);M(1=1)");
         due.is("the first that holds", list.by(0, 7, 0), 'P');
         due.is("FREE", list.by(0, 7, 1), 0);
     }
@@ -215,7 +186,7 @@ public final class FamilyTest {
         child(list, MARK, 30);
         child(list, ANNE, 40);
         child(list, LUKE, 50);
-        use(list, "D(1=1)");
+        due.use(list, "D(1=1)");
         due.is("nobody died", list.by(0, 15, 3), 0);
         list.died(0, 51);
         due.is("died too late", list.by(0, 15, 3), 0);
@@ -239,17 +210,17 @@ public final class FamilyTest {
         child(twins, PAUL, 20);
         child(twins, MARK, 20);
         twins.died(0, 20);
-        use(twins, "D(1=1)");
+        due.use(twins, "D(1=1)");
         due.is("a twin that died", twins.should(0, 3, 1), PAUL);
         due.is("the elder twin", twins.by(0, 3, 0), 0);
-        use(twins, "P(t=1)");
+        due.use(twins, "P(t=1)");
         due.is("the elder one is a twin", twins.by(0, 3, 0), 'P');
         due.is("the younger one is a twin", twins.by(0, 3, 1), 'P');
         due.is("alone it is none", twins.by(0, 2, 1), 0);
         child(twins, JOHN, 30);
         child(twins, LUKE, 40);
         twins.died(2, 35);
-        use(twins, "D(1=1)");
+        due.use(twins, "D(1=1)");
         due.is("NAME 0 of the dead one", twins.should(0, 12, 3), JOHN);
         twins.died(0, -1);
         twins.died(1, 20);
@@ -271,14 +242,13 @@ public final class FamilyTest {
     }
 
     private static void fact(FontList list, char letter, int i, int want) {
-        use(list, "P(" + letter + "=" + want + ");Q(" + letter + "=" + want + ")");
+        due.use(list, "P(" + letter + "=" + want + ");Q(" + letter + "=" + want + ")");
         due.is(letter + " of " + i + " is " + want, list.by(0, 63, i), list.look(i, 0) < MARY ? 'P' : 'Q');
-        use(list, "P(!" + letter + "=" + want + ");Q(!" + letter + "=" + want + ")");
+        due.use(list, "P(!" + letter + "=" + want + ");Q(!" + letter + "=" + want + ")");
         due.is(letter + " of " + i + " is nothing else", list.by(0, 63, i), 0);
     }
 
     private static void promise14Facts() {
-        FontList list = six();
         int[][] want = {
             {3, 4, 0, 40, 30, 0, LUKE, 1, 6},
             {1, 0, 0, 20, 10, 0, PAUL, 0, 6},
@@ -287,6 +257,7 @@ public final class FamilyTest {
             {2, 3, 1, 30, 20, 1, RUTH, 1, 6},
             {4, 5, 0, 44, 34, 0, PAUL, 1, 6}};
         for (int i = 0; i < 6; i++) {
+            FontList list = six();
             for (int k = 0; k < 9; k++) {
                 fact(list, "nbxywtaec".charAt(k), i, want[i][k]);
             }
@@ -294,10 +265,7 @@ public final class FamilyTest {
     }
 
     private static void holds(String c, boolean want) {
-        FontList list = people();
-        child(list, PAUL, 20);
-        use(list, "P(" + c + ")");
-        due.is(c, list.by(0, 1, 0), want ? 'P' : 0);
+        due.is(c, byAnOnlySon(c), want ? 'P' : 0);
     }
 
     private static void promise14Reckoning() {
@@ -368,7 +336,7 @@ public final class FamilyTest {
         holds("5%[n-1]=0|1=1", false);
         FontList list = people();
         child(list, PAUL, 20);
-        use(list, "P(1/b=0|1=1);F(1=1)");
+        due.use(list, "P(1/b=0|1=1);F(1=1)");
         due.is("the next CLAUSE is asked", list.by(0, 1, 0), 'F');
     }
 
@@ -376,7 +344,7 @@ public final class FamilyTest {
         FontList list = people();
         child(list, PAUL, 20);
         child(list, PAUL, 22);
-        use(list, "P(1=1)");
+        due.use(list, "P(1=1)");
         int[][] wrong = {{1, 1, 0}, {-1, 1, 0}, {0, 4, 2}, {0, 4, 0}, {0, -1, 0}, {0, 3, 0}, {0, 1, 1}, {0, 2, 0},
             {0, 0, 0}, {0, 1, 2}, {0, 1, -1}, {0, 1, 32}, {0, 1, 31}, {0, 1, Integer.MIN_VALUE}};
         for (int[] w : wrong) {
@@ -400,11 +368,11 @@ public final class FamilyTest {
         int[][] want = {{LUKE, RUTH}, {MARK, ANNE}, {JOHN, MARY}};
         String[] texts = {"F(1=1);f(1=1)", "M(1=1);m(1=1)", "P(1=1);Q(1=1)"};
         for (int k = 0; k < 3; k++) {
-            use(list, texts[k]);
+            due.use(list, texts[k]);
             due.is(texts[k] + " for a son", list.should(0, 3, 0), want[k][0]);
             due.is(texts[k] + " for a daughter", list.should(0, 3, 1), want[k][1]);
         }
-        use(list, "F(1=1)");
+        due.use(list, "F(1=1)");
         due.is("a daughter is FREE", list.should(0, 3, 1), -2);
         list.parent(0, 0, -1);
         due.is("not told: the son's own", list.should(0, 3, 0), PAUL);

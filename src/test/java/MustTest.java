@@ -30,11 +30,6 @@ public final class MustTest {
         return list;
     }
 
-    private static void use(FontList list, String text) {
-        due.is("FAULT of " + text, Due.custom(list, 0, text) > 0 ? 1 : 0, 1);
-        list.customs(0, 0, 0);
-    }
-
     private static int child(FontList list, int name, int year) {
         return list.christening(name, year, JOHN, MARY, -1);
     }
@@ -45,7 +40,7 @@ public final class MustTest {
         due.is("no CUSTOM", list.must(0, 1, 0), 0);
         list.parent(0, 0, PAUL);
         list.parent(0, 2, MARK);
-        use(list, "F(n=1);M(n=2);P(n=3)");
+        due.use(list, "F(n=1);M(n=2);P(n=3)");
         due.is("John is a third one", list.must(0, 1, 0), 2);
         child(list, MARK, 22);
         due.is("Mark is a second one", list.must(0, 2, 0), 1);
@@ -59,7 +54,7 @@ public final class MustTest {
         FontList list = people();
         child(list, PAUL, 20);
         child(list, MARK, 22);
-        use(list, "F(n=1|n=2);M(n=3);P(n=4)");
+        due.use(list, "F(n=1|n=2);M(n=3);P(n=4)");
         due.is("Paul is his father's, Mark her father's", list.must(0, 3, 0), 1);
         list.parent(0, 2, LUKE);
         due.is("her father is Luke: one for both NAMES doesn't do, then FREE", list.must(0, 3, 0), 3);
@@ -68,7 +63,7 @@ public final class MustTest {
         due.is("his father is Mark: Paul is her father's, Mark FREE", list.must(0, 3, 0), 3);
         list.parent(0, 0, PAUL);
         due.is("his father is Paul", list.must(0, 3, 0), 1);
-        use(list, "F(n>0)");
+        due.use(list, "F(n>0)");
         list.parent(0, 0, -1);
         due.is("one NAME for both", list.must(0, 3, 0), -2);
         due.is("any NAME for one", list.must(0, 1, 0), 0);
@@ -81,10 +76,10 @@ public final class MustTest {
         child(list, RUTH, 24);
         list.parent(0, 1, RUTH);
         list.parent(0, 3, ANNE);
-        use(list, "f(n=1);m(n=2);Q(n=4);P(n=2)");
+        due.use(list, "f(n=1);m(n=2);Q(n=4);P(n=2)");
         due.is("Anne is a second one, Ruth a third", list.must(0, 7, 1), 1);
         due.is("John is FREE as a first one", list.must(0, 7, 0), 0);
-        use(list, "P(n=3);F(n=1);Q(n=4);f(n<4)");
+        due.use(list, "P(n=3);F(n=1);Q(n=4);f(n<4)");
         list.parent(0, 0, LUKE);
         due.is("John is FREE as a second one", list.must(0, 2, 0), 1);
         due.is("no daughter", list.must(0, 2, 1), 0);
@@ -97,12 +92,12 @@ public final class MustTest {
         child(list, LUKE, 24);
         list.parent(0, 0, PAUL);
         list.parent(0, 2, LUKE);
-        use(list, "F(n=2);M(n=6);P(n<6)");
+        due.use(list, "F(n=2);M(n=6);P(n<6)");
         due.is("1 ahead of Paul, 3 ahead of Mark: FREE at 7 only", list.must(0, 3, 0), 5);
         due.is("Luke is a sixth one", list.must(0, 4, 0), 5);
         due.is("1 ahead of Paul, 4 ahead of Luke", list.must(0, 5, 0), 4);
         due.is("Luke is FREE behind Mark", list.must(0, 7, 0), 5);
-        use(list, "F(n=2);M(n=6);P(n<6);F(n>6)");
+        due.use(list, "F(n=2);M(n=6);P(n<6);F(n>6)");
         due.is("Mark is never right", list.must(0, 3, 0), -2);
         due.is("out of the order of numbers", list.must(0, 5, 0), 4);
         FontList turned = people();
@@ -110,7 +105,7 @@ public final class MustTest {
         child(turned, MARK, 20);
         turned.parent(0, 0, PAUL);
         turned.parent(0, 2, MARK);
-        use(turned, "F(n=1);M(n=2);F(n=3)");
+        due.use(turned, "F(n=1);M(n=2);F(n=3)");
         due.is("Mark came first: then Paul is a third one", turned.must(0, 3, 0), 1);
     }
 
@@ -118,13 +113,13 @@ public final class MustTest {
         FontList list = people();
         child(list, JOHN, 20);
         list.parent(0, 0, PAUL);
-        use(list, "P(n=6);F(n>0)");
+        due.use(list, "P(n=6);F(n>0)");
         due.is("five do", list.must(0, 1, 0), 5);
-        use(list, "P(n=7);F(n>0)");
+        due.use(list, "P(n=7);F(n>0)");
         due.is("five don't do", list.must(0, 1, 0), -2);
-        use(list, "F(n<7)");
+        due.use(list, "F(n<7)");
         due.is("FREE as a seventh one only", list.must(0, 1, 0), -2);
-        use(list, "F(n<6)");
+        due.use(list, "F(n<6)");
         due.is("FREE as a sixth one", list.must(0, 1, 0), 5);
     }
 
@@ -132,13 +127,13 @@ public final class MustTest {
         FontList list = people();
         child(list, JOHN, 20);
         list.parent(0, 0, PAUL);
-        use(list, "P(b=1);F(n>0)");
+        due.use(list, "P(b=1);F(n>0)");
         due.is("b does not grow", list.must(0, 1, 0), -2);
-        use(list, "P(c=2);F(n>0)");
+        due.use(list, "P(c=2);F(n>0)");
         due.is("c does not grow", list.must(0, 1, 0), -2);
-        use(list, "P(e=1);F(n>0)");
+        due.use(list, "P(e=1);F(n>0)");
         due.is("e does not grow", list.must(0, 1, 0), -2);
-        use(list, "F(1/[n-3]<1);P(n=3)");
+        due.use(list, "F(1/[n-3]<1);P(n=3)");
         due.is("what is REFUSED does not hold", list.must(0, 1, 0), 2);
         Due.custom(list, 1, "P(n=2);F(n>0)");
         Due.custom(list, 2, "P(n=3);F(n>0)");
@@ -150,11 +145,11 @@ public final class MustTest {
         child(dead, PAUL, 20);
         child(dead, PAUL, 30);
         dead.died(0, 25);
-        use(dead, "D(n>2);P(n=2)");
+        due.use(dead, "D(n>2);P(n=2)");
         due.is("the dead one stays", dead.must(0, 3, 0), 1);
         FontList sponsored = people();
         sponsored.christening(PAUL, 20, JOHN, MARY, PAUL);
-        use(sponsored, "S(n=3);P(n>0)");
+        due.use(sponsored, "S(n=3);P(n>0)");
         due.is("the SPONSOR stays", sponsored.must(0, 1, 0), 2);
         due.is("it changed nothing", sponsored.points(0, 1), -10);
     }

@@ -2,8 +2,9 @@ import java.util.Random;
 
 /** Runs of calls on the program and on the Oracle side by side: every answer must be the same. */
 public final class RandomRunsTest {
-    private static final int RUNS = 400;
-    private static final int CALLS = 300;
+    private static final int RUNS = 3000;
+    /** The last round of questions and the look at all that was told still fit into the 512 calls of an object. */
+    private static final int CALLS = 360;
     private static final long MOST_WAYS = 30000;
 
     private final Due due;
@@ -13,6 +14,7 @@ public final class RandomRunsTest {
     private Oracle.Found found;
     private boolean searched;
     private final String run;
+    private int calls;
 
     private RandomRunsTest(Due due, int seed) {
         this.due = due;
@@ -51,7 +53,7 @@ public final class RandomRunsTest {
         for (int k = 0; k < 2 + below(8); k++) {
             tellFont(wide);
         }
-        for (int call = 0; call < CALLS; call++) {
+        while (calls < CALLS) {
             if (below(6) == 0) {
                 change(wide);
             } else {
@@ -59,9 +61,11 @@ public final class RandomRunsTest {
             }
         }
         compareState();
+        due.no(run + "more calls than an object is used for", calls > 512);
     }
 
     private void is(String call, long got, long want) {
+        calls++;
         due.is(run + call, got, want);
     }
 

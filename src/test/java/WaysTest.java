@@ -30,11 +30,6 @@ public final class WaysTest {
         return list;
     }
 
-    private static void use(FontList list, String text) {
-        due.is("FAULT of " + text, Due.custom(list, 0, text) > 0 ? 1 : 0, 1);
-        list.customs(0, 0, 0);
-    }
-
     private static void best(String what, FontList list, int... row) {
         for (int i = 0; i < row.length; i++) {
             due.is(what + ": best(" + i + ")", list.best(i), row[i]);
@@ -52,7 +47,7 @@ public final class WaysTest {
         best("alone costs nothing", list, 0, 1, 0);
         due.is("best(3)", list.best(3), -1);
         due.is("best(-1)", list.best(-1), -1);
-        use(list, "P(n=1)");
+        due.use(list, "P(n=1)");
         best("0 first of 0, or alone; 1 and 2 not as first ones", list, 0, 6, 0);
         FontList late = twoCouples();
         late.christening(0, 60, 0, -1, -1);
@@ -72,7 +67,7 @@ public final class WaysTest {
         list.parent(0, 0, 3);
         list.christening(2, 20, 0, -1, -1);
         list.christening(3, 20, 0, -1, -1);
-        use(list, "F(n=1)");
+        due.use(list, "F(n=1)");
         best("each to his grandfather", list, 1, 0);
         due.is("POINTS", list.ways(0), 18);
         due.is("one only", list.ways(1), 1);
@@ -102,7 +97,7 @@ public final class WaysTest {
         list.christening(0, 20, 0, -1, -1);
         list.christening(2, 30, 0, -1, -1);
         list.weighs(10, 3);
-        use(list, "P(n=1)");
+        due.use(list, "P(n=1)");
         due.is("0 with a COUPLE, 2 behind it", list.ways(0), 5);
         due.is("of either", list.ways(1), 2);
         due.is("then 2 has nobody", list.ways(3), 3);
@@ -114,7 +109,7 @@ public final class WaysTest {
         told.parent(0, 0, 2);
         told.parent(1, 0, 3);
         told.weighs(2, 4);
-        use(told, "F(n=1)");
+        due.use(told, "F(n=1)");
         due.is("9 with the first, nobody for the other", told.ways(0), 5);
         due.is("then -2 with the second", told.ways(3), 11);
     }
@@ -138,7 +133,7 @@ public final class WaysTest {
         due.is("POINTS", list.ways(0), 0);
         due.is("GAP", list.ways(3), 1000);
         best("the least row", list, 0, 0, 0, 0, 0, 0, 0, 0, 0, 0);
-        use(list, "F(n=1);f(n=1);P(n>1);Q(n>1)");
+        due.use(list, "F(n=1);f(n=1);P(n>1);Q(n>1)");
         list.weighs(100, 1000);
         due.is("6 first sons or daughters each, at 5 and 5: one of each", list.ways(0), 1000);
         best("each in a COUPLE", list, 0, 0, 1, 1, 2, 2, 3, 3, 4, 4);
@@ -150,7 +145,7 @@ public final class WaysTest {
         FontList list = twoCouples();
         list.christening(2, 20, 0, -1, -1);
         due.is("at first", list.ways(0), 0);
-        use(list, "P(n=1)");
+        due.use(list, "P(n=1)");
         due.is("a CUSTOM", list.ways(0), -10);
         list.weighs(4, 20);
         due.is("LOSS", list.ways(0), -4);
@@ -183,7 +178,7 @@ public final class WaysTest {
         list.christening(2, 20, 0, 1, -1);
         list.christening(3, 20, 0, 4, -1);
         list.christening(3, 60, 0, -1, -1);
-        use(list, "F(n=1)");
+        due.use(list, "F(n=1)");
         list.weighs(10, 10);
         due.is("COUPLE 0, 1 or nobody, all alike", list.sure(0, 0), 1);
         due.is("COUPLE 1", list.sure(0, 1), 1);
@@ -233,7 +228,7 @@ public final class WaysTest {
             list.parent(c, 0, c == one || c == other ? 2 : 0);
         }
         list.christening(2, 20, 0, -1, -1);
-        use(list, "F(n=1)");
+        due.use(list, "F(n=1)");
         for (int c = 0; c < 7; c++) {
             due.is(one + " or " + other + ": sure(0, " + c + ")", list.sure(0, c), 1);
         }
@@ -248,7 +243,7 @@ public final class WaysTest {
         list.christening(3, 30, 0, -1, -1);
         list.christening(4, 40, 0, -1, -1);
         due.is("no CUSTOM", list.grand(0, 0), 0);
-        use(list, "M(n>0);m(n>0)");
+        due.use(list, "M(n>0);m(n>0)");
         list.weighs(2, 100);
         best("all in one by row", list, 0, 1, 0);
         due.is("her father", list.grand(0, 2), 1 << 2);
@@ -272,7 +267,7 @@ public final class WaysTest {
         one.couple(0, 1, 0, 99);
         one.christening(0, 20, 0, -1, -1);
         one.christening(2, 30, 0, -1, -1);
-        use(one, "F(n>0)");
+        due.use(one, "F(n>0)");
         due.is("two alike", one.grand(0, 0), 0b101);
         one.christening(3, 40, 0, -1, -1);
         due.is("the third says more", one.grand(0, 0), 0b1000);
@@ -280,7 +275,7 @@ public final class WaysTest {
 
     private static void promise19WithoutChildren() {
         FontList list = twoCouples();
-        use(list, "F(n>0)");
+        due.use(list, "F(n>0)");
         for (int w = 0; w < 4; w++) {
             due.is("no child", list.grand(1, w), 0);
         }
@@ -293,7 +288,7 @@ public final class WaysTest {
         list.christening(0, 20, 0, -1, -1);
         list.christening(2, 30, 0, -1, -1);
         list.christening(0, 60, 0, -1, -1);
-        use(list, "P(n=1)");
+        due.use(list, "P(n=1)");
         list.weighs(10, 3);
         due.is("little(0)", list.little(0), 0);
         due.is("little(3): 2 costs 3", list.little(3), 0);
