@@ -106,6 +106,13 @@ public final class BestEdgesTest extends Parish {
         due.is("none ahead of John, five ahead of Mark", two.must(0, 3, 0), 5);
         due.use(two, "F(n=2);M(n=8);P(n>0)");
         due.is("six ahead of Mark", two.must(0, 3, 0), -2);
+        FontList ten = tenSons();
+        due.is("all ten are FREE", ten.must(0, 1023, 0), 0);
+        ten.parent(0, 0, 5);
+        due.use(ten, "P(n=15);F(n>9)");
+        due.is("five between the ninth and the tenth", ten.must(0, 1023, 0), 5);
+        due.use(ten, "P(n=16);F(n>9)");
+        due.is("six between the ninth and the tenth", ten.must(0, 1023, 0), -2);
     }
 
     private static void mustStandSomewhereAhead() {
@@ -167,6 +174,19 @@ public final class BestEdgesTest extends Parish {
         list.parent(0, 2, MARK);
         due.is("told", list.must(0, 3, 0), 1);
         due.is("Mark alone", list.must(0, 2, 0), 2);
+        FontList first = people();
+        child(first, JOHN, 20);
+        child(first, ANNE, 30);
+        due.use(first, "M(n>0);f(n>0)");
+        due.is("her father NAME 0", first.must(0, 3, 0), 0);
+        due.is("his mother NAME 5", first.must(0, 3, 1), 0);
+        due.use(first, "F(n>0);m(n>0)");
+        due.is("his father NAME 0", first.must(0, 3, 0), 0);
+        due.is("her mother NAME 5", first.must(0, 3, 1), 0);
+        child(first, RUTH, 40);
+        due.is("no NAME for both daughters", first.must(0, 7, 1), -2);
+        due.use(first, "f(n<3);m(n>2)");
+        due.is("his mother Anne, her mother Ruth", first.must(0, 7, 1), 1);
     }
 
     private static void learns(FontList list, int from, int to, int[] row, int... want) {

@@ -9,6 +9,8 @@ public final class CallEdgesTest extends Parish {
 
     public static void main(String[] args) {
         calls512();
+        memoryIsItsOwn();
+        noneIsTheConstant();
         promise1();
         promise2And3AndTheirNumbers();
         promise4();
@@ -75,6 +77,35 @@ public final class CallEdgesTest extends Parish {
         due.is("the 510th call", list.best(0), 0);
         due.is("the 511th call", list.ways(2), 2);
         due.is("the 512th call", list.ways(3), 33);
+    }
+
+    private static void memoryIsItsOwn() {
+        due.sentence("All memory is the clerk's own.");
+        FontList one = two();
+        FontList other = new FontList();
+        due.is("the other has no NAME", other.count(0), 0);
+        due.is("and no tape", one.feed(0, 0, 0, 0, 0) - other.count(3), 20);
+        other.name(0, 100);
+        other.name(1, 100);
+        other.couple(0, 1, 0, 0);
+        other.christening(0, 0, 0, 1, -1);
+        other.weighs(0, 1000);
+        due.use(other, "S(n=1);F(n=1)");
+        due.is("the other's POINTS", other.ways(0), 100);
+        due.is("the one's POINTS", one.ways(0), -20);
+        due.is("the one's CUSTOM", one.by(0, 1, 0), 'P');
+        due.is("the other's CUSTOM", other.by(0, 1, 0), 'F');
+        due.is("the one's COUPLES", one.count(1), 2);
+        due.is("the one's tape", one.count(3), 20);
+        due.is("the other's tape", other.count(3), 0);
+    }
+
+    private static void noneIsTheConstant() {
+        due.sentence("`NONE = -1`: There is none.");
+        due.is("NONE", FontList.NONE, -1);
+        FontList list = two();
+        due.yes("as what is told", list.parent(0, 0, FontList.NONE) && list.died(0, FontList.NONE));
+        due.is("as what is asked", list.look(0, 4), FontList.NONE);
     }
 
     private static void promise1() {
@@ -471,6 +502,14 @@ public final class CallEdgesTest extends Parish {
         due.is("no CUSTOM is told", untold.learnt(0, 300, 0), -1000000);
         due.is("the tape stays", untold.count(3), 20);
         due.is("as it was", untold.judge(), 0);
+        FontList none = people();
+        due.is("no CUSTOM, no CHRISTENING", none.learnt(7, 9, 2), -1000000);
+        due.use(none, "P(n=1)");
+        due.is("no CHRISTENING, no tape: the first YEAR", none.learnt(7, 9, 2), 7);
+        due.is("no CHRISTENING, no tape: no POINTS", none.learnt(7, 9, 3), 0);
+        none.feed(-1, -1, -1, -1, -1);
+        due.is("no CHRISTENING", none.learnt(7, 9, 1), 0);
+        due.is("empty then", none.count(3), 0);
     }
 
     private static void promise23() {

@@ -1,8 +1,12 @@
+import java.lang.reflect.Array;
+import java.lang.reflect.Field;
 import java.lang.reflect.Method;
 import java.lang.reflect.Modifier;
 import java.nio.file.Files;
 import java.nio.file.Path;
 import java.util.ArrayList;
+import java.util.Collections;
+import java.util.IdentityHashMap;
 import java.util.List;
 import java.util.Set;
 import java.util.TreeSet;
@@ -27,6 +31,7 @@ public final class LanguageTest {
         rule5StaticFields();
         rule11Lengths(code);
         rule12NothingMadeByCalls(code);
+        roomOfAnObject();
         due.end("LanguageTest");
     }
 
@@ -79,7 +84,7 @@ public final class LanguageTest {
         classes.add(FontList.class);
         for (Class<?> one : classes) {
             int fields = 0;
-            for (java.lang.reflect.Field field : one.getDeclaredFields()) {
+            for (Field field : one.getDeclaredFields()) {
                 int modifiers = field.getModifiers();
                 fields += Modifier.isStatic(modifiers) ? 0 : 1;
                 due.no("rule 5: " + field, Modifier.isStatic(modifiers) && !Modifier.isFinal(modifiers));
@@ -107,5 +112,34 @@ public final class LanguageTest {
             boolean inConstructor = line.contains("told[k] = new Custom();");
             due.no("rule 12: " + line.trim(), line.contains("new ") && !inField && !inConstructor);
         }
+    }
+
+    /** All objects of a run live in one room: hundreds of new lists must fit into it. */
+    private static void roomOfAnObject() throws ReflectiveOperationException {
+        Set<Object> seen = Collections.newSetFromMap(new IdentityHashMap<>());
+        long elements = elementsOf(new FontList(), seen);
+        due.yes("room: " + seen.size() + " objects", seen.size() * 500 < 600000);
+        due.yes("room: " + elements + " fields and elements", elements * 500 < 7300000);
+    }
+
+    private static long elementsOf(Object one, Set<Object> seen) throws ReflectiveOperationException {
+        if (one == null || !seen.add(one)) {
+            return 0;
+        }
+        if (one.getClass().isArray()) {
+            long elements = Array.getLength(one);
+            for (int k = 0; one instanceof Object[] && k < Array.getLength(one); k++) {
+                elements += elementsOf(Array.get(one, k), seen);
+            }
+            return elements;
+        }
+        long fields = 0;
+        for (Field field : one.getClass().getDeclaredFields()) {
+            if (!Modifier.isStatic(field.getModifiers())) {
+                field.setAccessible(true);
+                fields += 1 + (field.getType().isPrimitive() ? 0 : elementsOf(field.get(one), seen));
+            }
+        }
+        return fields;
     }
 }

@@ -306,6 +306,16 @@ public final class PointsEdgesTest extends Parish {
         due.is("from -100 to -1000", list.ways(3), 900);
         list.weighs(100, 0);
         due.is("from 0 to -100", list.ways(3), 100);
+        // Of three COUPLES one alone has fewer: each of them in turn.
+        for (int c = 0; c < 3; c++) {
+            FontList three = twoCouples();
+            three.couple(JOHN, MARY, 10, 90);
+            child(three, PAUL, 20);
+            three.parent(c, 0, MARK);
+            due.use(three, "F(n=1)");
+            due.is("12 for two COUPLES", three.ways(1), 2);
+            due.is("from 12 to -10, not to -20", three.ways(3), 22);
+        }
     }
 
     private static void theGapThatIsNone() {

@@ -229,6 +229,13 @@ public final class TextEdgesTest extends Parish {
         due.is("the last child, not the last death", list.should(0, 7, 2), LUKE);
         list.died(1, 41);
         due.is("the last of those that DIED in time", list.should(0, 7, 2), PAUL);
+        FontList zero = people();
+        child(zero, JOHN, 20);
+        child(zero, MARK, 30);
+        zero.died(0, 25);
+        due.use(zero, "D(1=1)");
+        due.is("NAME 0", zero.should(0, 3, 1), JOHN);
+        due.is("10 less", zero.points(0, 3), -10);
     }
 
     private static void withoutOneItIsFree() {
@@ -332,6 +339,8 @@ public final class TextEdgesTest extends Parish {
         for (int i = 0; i < 3; i++) {
             fact(list, 7, i, 't', i < 2 ? 1 : 0);
         }
+        fact(list, 3, 0, 't', 1);
+        fact(list, 3, 1, 't', 1);
         fact(list, 5, 0, 't', 0);
         fact(list, 6, 1, 't', 0);
     }
